@@ -22,6 +22,7 @@ public final class PromiseTest {
         promise11();
         promise12();
         promise12Branches();
+        promise12TwoTurns();
         promise13();
         promise14();
         promise15();
@@ -301,6 +302,20 @@ public final class PromiseTest {
         for (int k = 1; k <= 5; k++) {
             due("12: branch " + k, x.needs(k), want[k - 1]);
         }
+    }
+
+    /** Two turns at once: the moments that come from the turning of a turning body. */
+    private static void promise12TwoTurns() {
+        LimbWorks x = tiltedPair();
+        x.inertia(2, 2, 3, 5);
+        x.products(2, 7, 11, 13);
+        x.joint(1, 0, 1, 0);
+        x.joint(2, 0, 2, 0);
+        due("12: two turns, 1", x.needs(1), 4 * 7 + 4 * 11);
+        due("12: two turns, 2", x.needs(2), Check.number(-7));
+        x.joint(2, 1, 2, 0);
+        due("12: two turns further, 1", x.needs(1), Check.number(-4 * 7 - 4 * 13));
+        due("12: two turns further, 2", x.needs(2), 7);
     }
 
     private static void promise13() {
