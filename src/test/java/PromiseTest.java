@@ -26,14 +26,11 @@ public final class PromiseTest {
         promise13();
         promise14();
         promise15();
-        promise15Corners();
         promise16();
         promise17();
         promise18();
         promise19();
         promise20();
-        refusals();
-        refusalsChangeNothing();
         CHECK.end();
     }
 
@@ -170,17 +167,8 @@ public final class PromiseTest {
         due("6: distance to the axis", x.matrix(1, 1), 130);
     }
 
-    /** Body 1 turns about z; body 2, tilted, has that z as its y, and as its x when it is turned by 1. */
-    private static LimbWorks tiltedPair() {
-        LimbWorks x = new LimbWorks();
-        x.body(0, TURNS);
-        x.body(1, TURNS);
-        x.tilt(2, 1);
-        return x;
-    }
-
     private static void promise7() {
-        LimbWorks x = tiltedPair();
+        LimbWorks x = Calls.tiltedPair();
         due("7: inertia", x.inertia(2, 2, 3, 5), true);
         due("7: zz", x.matrix(2, 2), 5);
         due("7: yy", x.matrix(1, 1), 3);
@@ -195,7 +183,7 @@ public final class PromiseTest {
     }
 
     private static void promise8() {
-        LimbWorks x = tiltedPair();
+        LimbWorks x = Calls.tiltedPair();
         x.inertia(2, 2, 3, 5);
         due("8: products", x.products(2, 7, 11, 13), true);
         due("8: yz", x.matrix(1, 2), 13);
@@ -306,7 +294,7 @@ public final class PromiseTest {
 
     /** Two turns at once: the moments that come from the turning of a turning body. */
     private static void promise12TwoTurns() {
-        LimbWorks x = tiltedPair();
+        LimbWorks x = Calls.tiltedPair();
         x.inertia(2, 2, 3, 5);
         x.products(2, 7, 11, 13);
         x.joint(1, 0, 1, 0);
@@ -364,45 +352,6 @@ public final class PromiseTest {
         due("15: the torque of 2", x.needs(2), 8);
         due("15: the speeds stay", x.energy(), 4 * 71 - 2 * 70 + 25 * 7);
         dueVector("15: the positions stay", x, 2, 0, 1, -3, 0);
-    }
-
-    /** H has the rows (m + k, m), (m, i + m). */
-    private static LimbWorks cornerPair(int m, int k, int i) {
-        LimbWorks x = new LimbWorks();
-        x.body(0, SLIDES);
-        x.body(1, TURNS);
-        x.tilt(2, 1);
-        x.centre(2, 1, 0, 0);
-        x.mass(1, k);
-        x.mass(2, m);
-        x.inertia(2, 0, 0, i);
-        x.joint(1, 0, 0, 11);
-        x.joint(2, 0, 0, 12);
-        x.torque(1, 6);
-        x.torque(2, 10);
-        return x;
-    }
-
-    private static void promise15Corners() {
-        LimbWorks x = cornerPair(2, 3, -2);
-        due("15: (1, 1)", x.matrix(1, 1), 5);
-        due("15: (1, 2)", x.matrix(1, 2), 2);
-        due("15: (2, 1)", x.matrix(2, 1), 2);
-        due("15: (2, 2)", x.matrix(2, 2), 0);
-        due("15: a corner is 0, the whole is not", x.forward(), 0);
-        due("15: 1 is as it was", x.acceleration(1), 11);
-        due("15: 2 is as it was", x.acceleration(2), 12);
-
-        LimbWorks y = cornerPair(2, -2, 3);
-        due("15: (1, 1)", y.matrix(1, 1), 0);
-        due("15: only the upper left is 0", y.forward(), 1);
-        due("15: of 2", y.acceleration(2), 3);
-        due("15: of 1", y.acceleration(1), Check.part(10 - 5 * 3, 2));
-
-        LimbWorks z = cornerPair(2, 0, 0);
-        due("15: the whole is 0, the corner is not", z.forward(), 0);
-        due("15: 1 is as it was", z.acceleration(1), 11);
-        due("15: 2 is as it was", z.acceleration(2), 12);
     }
 
     private static void promise16() {
@@ -503,69 +452,5 @@ public final class PromiseTest {
         due("20: each joint back", x.where(2, 2), 17 - 5);
         x.body(0, SLIDES);
         due("20: a later body is still", x.where(3, 2), 0);
-    }
-
-    private static void refusals() {
-        LimbWorks x = new LimbWorks();
-        for (int there = 0; there <= 7; there++) {
-            int[] absent = {0, -1, there + 1, 8, MIN, MAX};
-            for (int body : absent) {
-                String on = " of " + body;
-                due("place" + on, x.place(body, 1, 1, 1), false);
-                due("tilt" + on, x.tilt(body, 1), false);
-                due("mass" + on, x.mass(body, 1), false);
-                due("centre" + on, x.centre(body, 1, 1, 1), false);
-                due("inertia" + on, x.inertia(body, 1, 1, 1), false);
-                due("products" + on, x.products(body, 1, 1, 1), false);
-                due("joint" + on, x.joint(body, 1, 1, 1), false);
-                due("torque" + on, x.torque(body, 1), false);
-                due("needs" + on, x.needs(body), NONE);
-                due("bias" + on, x.bias(body), NONE);
-                due("acceleration" + on, x.acceleration(body), NONE);
-                due("where" + on, x.where(body, 0), NONE);
-            }
-            x = chain(there + 1);
-        }
-    }
-
-    private static LimbWorks chain(int length) {
-        LimbWorks x = new LimbWorks();
-        for (int k = 0; k < length && k < 7; k++) {
-            x.body(k, TURNS);
-        }
-        return x;
-    }
-
-    /** What was told of a body before it was there, or of the ground, is not found later. */
-    private static void refusalsChangeNothing() {
-        LimbWorks x = new LimbWorks();
-        for (int body = 0; body <= 1; body++) {
-            x.place(body, 1, 2, 3);
-            x.tilt(body, 2);
-            x.mass(body, 3);
-            x.centre(body, 4, 5, 6);
-            x.inertia(body, 7, 8, 9);
-            x.products(body, 1, 2, 3);
-            x.joint(body, 4, 5, 6);
-            x.torque(body, 7);
-        }
-        x.body(0, SLIDES);
-        dueVector("refused place", x, 1, 0, 0, 0, 0);
-        dueVector("refused centre", x, 1, 3, 0, 0, 0);
-        dueVector("refused tilt", x, 1, 6, 0, 0, 1);
-        due("refused mass", x.weight(3), 0);
-        due("refused acceleration", x.acceleration(1), 0);
-        x.mass(1, 1);
-        due("refused speed", x.energy(), 0);
-        x.forward();
-        due("refused torque", x.acceleration(1), 0);
-        x.body(0, TURNS);
-        x.inertia(3, 7, 8, 9);
-        x.products(3, 1, 2, 3);
-        x.body(2, TURNS);
-        x.tilt(3, 1);
-        due("refused zz", x.matrix(3, 3), 0);
-        due("refused yy", x.matrix(2, 2), 0);
-        due("refused yz", x.matrix(2, 3), 0);
     }
 }

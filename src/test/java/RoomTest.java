@@ -26,7 +26,7 @@ public final class RoomTest {
             x.mass(k, k);
             x.inertia(k, k, k + 1, k + 2);
         }
-        for (int call = 21; call < CALLS; call += 8) {
+        for (int call = 21; call + 8 <= CALLS; call += 8) {
             x.forward();
             x.step(call);
             x.energy();
